@@ -619,15 +619,19 @@ public final class EchoCensus {
         }
 
         int echoesIn(int row) {
-            return echoesBetween(row, row);
+            int count = 0;
+            for (int slot = 0; slot < active; slot++) {
+                if (places[slot] == row) {
+                    count++;
+                }
+            }
+            return count;
         }
 
         int echoesBetween(int first, int last) {
             int count = 0;
-            for (int slot = 0; slot < active; slot++) {
-                if (places[slot] >= first && places[slot] <= last) {
-                    count++;
-                }
+            for (int row = first; row <= last; row++) {
+                count += echoesIn(row);
             }
             return count;
         }

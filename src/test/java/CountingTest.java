@@ -1,3 +1,5 @@
+import java.lang.reflect.Field;
+import java.lang.reflect.Method;
 import java.util.NoSuchElementException;
 
 /** Promises 34 to 40 and 49 to 51: ranges, ranks, the loudest, the quietest, and shares. */
@@ -12,6 +14,7 @@ public final class CountingTest {
         ranks();
         loudestAndQuietest();
         shares();
+        inconsistent();
         Check.finish();
     }
 
@@ -101,6 +104,16 @@ public final class CountingTest {
         x.remove(1);
         Check.equal("loudest", 2, x::loudest);
         Check.equal("quietestRow", 2, x::quietestRow);
+        EchoCensus far = new EchoCensus();
+        for (int row = 0; row < 8; row++) {
+            far.addRow(1);
+        }
+        far.add(7, 1);
+        Check.equal("a quiet echo in the last row is the loudest", 0, far::loudest);
+        far.add(0, 1);
+        far.add(1, 2);
+        Check.equal("an echo in the first row", 1, () -> far.idByRank(0));
+        Check.equal("loudest", 2, far::loudest);
     }
 
     private static void shares() {
@@ -119,5 +132,45 @@ public final class CountingTest {
         Check.equal("meanOccupancy", 2.0 / 3.0, x::meanOccupancy);
         Check.equal("realShare", 2.0f / 3.0f, x::realShare);
         Check.equal("isConsistent", true, x::isConsistent);
+    }
+
+    /** No run of calls makes a census inconsistent, so its insides are bent here. */
+    private static void inconsistent() {
+        String[] numbers = {"loudnessAdded", "loudnessLost", "active"};
+        for (String number : numbers) {
+            Check.equal(number + " is bent", false, () -> {
+                EchoCensus x = fullHouse();
+                Object theatre = presentTheatre(x);
+                Field field = accessible(theatre.getClass().getDeclaredField(number));
+                if (field.getType() == long.class) {
+                    field.setLong(theatre, field.getLong(theatre) + 1);
+                } else {
+                    field.setInt(theatre, field.getInt(theatre) - 1);
+                }
+                return x.isConsistent();
+            });
+        }
+        for (int row = 0; row < 8; row++) {
+            int bent = row;
+            Check.equal("the seats of row " + row, OCCUPANCIES[row] == 0, () -> {
+                EchoCensus x = fullHouse();
+                Object theatre = presentTheatre(x);
+                int[] seats = (int[]) accessible(theatre.getClass().getDeclaredField("realSeats")).get(theatre);
+                seats[bent] = Math.max(0, OCCUPANCIES[bent] - 1);
+                return x.isConsistent();
+            });
+        }
+    }
+
+    private static Object presentTheatre(EchoCensus x) throws Exception {
+        Object history = accessible(EchoCensus.class.getDeclaredField("history")).get(x);
+        Method present = history.getClass().getDeclaredMethod("present");
+        present.setAccessible(true);
+        return present.invoke(history);
+    }
+
+    private static Field accessible(Field field) {
+        field.setAccessible(true);
+        return field;
     }
 }

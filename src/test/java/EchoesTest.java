@@ -63,6 +63,10 @@ public final class EchoesTest {
         Check.equal("echoCount", 24, x::echoCount);
         Check.equal("activeLoudness", 24 * 999, x::activeLoudness);
         Check.equal("isConsistent", true, x::isConsistent);
+        Check.equal("rowLoudness(2)", 8 * 999, () -> x.rowLoudness(2));
+        Check.equal("loudest", 0, x::loudest);
+        Check.equal("bequeathers(23)", 0, () -> x.bequeathers(23));
+        Check.equal("idInRow(2, 7)", 23, () -> x.idInRow(2, 7));
         x.remove(5);
         Check.equal("echoCount", 23, x::echoCount);
         Check.equal("a place is free again", 24, () -> x.add(0, 1));
@@ -188,6 +192,14 @@ public final class EchoesTest {
         Check.equal("just one is too many", 1, () -> x.spread(0));
         Check.equal("the loudest moves", 1, () -> x.rowOf(0));
         Check.equal("spread again", 0, () -> x.spread(0));
+        EchoCensus quiet = new EchoCensus();
+        quiet.addRow(1);
+        quiet.addRow(1);
+        quiet.addPhantoms(1, 1);
+        quiet.add(1, 1);
+        quiet.add(1, 1);
+        Check.equal("spread of echoes of loudness 1", 1, () -> quiet.spread(1));
+        Check.equal("the lowest id moves", 0, () -> quiet.rowOf(0));
         EchoCensus alone = new EchoCensus();
         alone.addRow(1);
         alone.addPhantoms(0, 1);
@@ -220,6 +232,10 @@ public final class EchoesTest {
         Check.equal("positionInRow(2) after a removal", 1, () -> x.positionInRow(2));
         Check.equal("loudness(2)", 13, () -> x.loudness(2));
         Check.equal("loudness(1)", 12, () -> x.loudness(1));
+        x.remove(2);
+        Check.equal("rowLoudness(1) without the last echo", 12, () -> x.rowLoudness(1));
+        Check.fails("idInRow(1, 1) without the last echo", NO_ECHO, () -> x.idInRow(1, 1));
+        Check.equal("loudest without the last echo", 1, x::loudest);
     }
 
     private static void unknownEchoes() {

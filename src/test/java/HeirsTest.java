@@ -37,6 +37,12 @@ public final class HeirsTest {
         Check.equal("setHeir(3, 2)", -1, () -> x.setHeir(3, 2));
         Check.equal("bequeathers(2)", 2, () -> x.bequeathers(2));
         Check.equal("bequeathers(1)", 0, () -> x.bequeathers(1));
+        x.undo();
+        Check.equal("bequeathers(2) after undo", 1, () -> x.bequeathers(2));
+        x.setHeir(3, 2);
+        x.remove(3);
+        Check.equal("bequeathers(2) after a removal", 1, () -> x.bequeathers(2));
+        x.undo();
         x.lock(0);
         x.lock(1);
         Check.equal("clearHeir(0) in a locked row", 2, () -> x.clearHeir(0));
