@@ -131,6 +131,9 @@ public final class CountingTest {
         x.addRow(1);
         Check.equal("meanOccupancy", 2.0 / 3.0, x::meanOccupancy);
         Check.equal("realShare", 2.0f / 3.0f, x::realShare);
+        EchoCensus full = fullHouse();
+        Check.equal("meanOccupancy of eight rows", 15.0 / 8.0, full::meanOccupancy);
+        Check.equal("realShare of eight rows", 15.0f / 96.0f, full::realShare);
         Check.equal("isConsistent", true, x::isConsistent);
     }
 

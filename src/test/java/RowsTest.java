@@ -48,6 +48,11 @@ public final class RowsTest {
         Check.fails("a ninth row", STATE, () -> x.addRow(1));
         Check.fails("a bad ninth row", ARGUMENT, () -> x.addRow(0));
         Check.equal("rowCount", 8, x::rowCount);
+        for (int row = 0; row < 8; row++) {
+            int number = row;
+            Check.equal("lock(" + row + ")", row + 1, () -> x.lock(number));
+        }
+        Check.equal("unlock(7)", 7, () -> x.unlock(7));
     }
 
     private static void phantomSeats() {
