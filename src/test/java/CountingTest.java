@@ -1,8 +1,6 @@
-import java.lang.reflect.Field;
-import java.lang.reflect.Method;
 import java.util.NoSuchElementException;
 
-/** Promises 34 to 40 and 49 to 51: ranges, ranks, the loudest, the quietest, and shares. */
+/** Promises 34 to 40, 49 and 50: ranges, ranks, the loudest, the quietest, and shares. */
 public final class CountingTest {
     private static final Class<NoSuchElementException> NO_ELEMENT = NoSuchElementException.class;
     private static final Class<IndexOutOfBoundsException> NO_ROW = IndexOutOfBoundsException.class;
@@ -14,7 +12,6 @@ public final class CountingTest {
         ranks();
         loudestAndQuietest();
         shares();
-        inconsistent();
         Check.finish();
     }
 
@@ -135,45 +132,5 @@ public final class CountingTest {
         Check.equal("meanOccupancy of eight rows", 15.0 / 8.0, full::meanOccupancy);
         Check.equal("realShare of eight rows", 15.0f / 96.0f, full::realShare);
         Check.equal("isConsistent", true, x::isConsistent);
-    }
-
-    /** No run of calls makes a census inconsistent, so its insides are bent here. */
-    private static void inconsistent() {
-        String[] numbers = {"loudnessAdded", "loudnessLost", "active"};
-        for (String number : numbers) {
-            Check.equal(number + " is bent", false, () -> {
-                EchoCensus x = fullHouse();
-                Object theatre = presentTheatre(x);
-                Field field = accessible(theatre.getClass().getDeclaredField(number));
-                if (field.getType() == long.class) {
-                    field.setLong(theatre, field.getLong(theatre) + 1);
-                } else {
-                    field.setInt(theatre, field.getInt(theatre) - 1);
-                }
-                return x.isConsistent();
-            });
-        }
-        for (int row = 0; row < 8; row++) {
-            int bent = row;
-            Check.equal("the seats of row " + row, OCCUPANCIES[row] == 0, () -> {
-                EchoCensus x = fullHouse();
-                Object theatre = presentTheatre(x);
-                int[] seats = (int[]) accessible(theatre.getClass().getDeclaredField("realSeats")).get(theatre);
-                seats[bent] = Math.max(0, OCCUPANCIES[bent] - 1);
-                return x.isConsistent();
-            });
-        }
-    }
-
-    private static Object presentTheatre(EchoCensus x) throws Exception {
-        Object history = accessible(EchoCensus.class.getDeclaredField("history")).get(x);
-        Method present = history.getClass().getDeclaredMethod("present");
-        present.setAccessible(true);
-        return present.invoke(history);
-    }
-
-    private static Field accessible(Field field) {
-        field.setAccessible(true);
-        return field;
     }
 }

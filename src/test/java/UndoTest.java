@@ -1,4 +1,4 @@
-import java.util.concurrent.Callable;
+import java.util.function.Function;
 
 /** Promises 59 to 62: undo, and the saved copy. */
 public final class UndoTest {
@@ -51,9 +51,11 @@ public final class UndoTest {
     }
 
     /** Checks that the change alters the census and that undo takes it back. */
-    private static void undoes(String what, EchoCensus x, Callable<?> change) {
+    private static void undoes(String what, Function<EchoCensus, Object> change) {
+        EchoCensus x = example();
         String before = picture(x);
-        Check.equal(what + " returns", false, () -> Check.answer(change).contains("Exception"));
+        Check.equal(what + " returns", false,
+                () -> Check.answer(() -> change.apply(x)).contains("Exception"));
         Check.equal(what + " changes the census", false, () -> picture(x).equals(before));
         Check.equal(what + " can be undone", 8, x::undoableCount);
         Check.equal("undo of " + what, 7, x::undo);
@@ -63,23 +65,24 @@ public final class UndoTest {
     }
 
     private static void everyChange() {
+        undoes("addRow", x -> x.addRow(12));
+        undoes("addPhantoms", x -> x.addPhantoms(1, 2));
+        undoes("removePhantoms", x -> x.removePhantoms(0, 1));
+        undoes("add", x -> x.add(1, 999));
+        undoes("move", x -> x.move(3, 0));
+        undoes("remove", x -> x.remove(1));
+        undoes("remove with an heir", x -> x.remove(0));
+        undoes("setHeir", x -> x.setHeir(0, 3));
+        undoes("clearHeir", x -> x.clearHeir(0));
+        undoes("lock", x -> x.lock(1));
+        undoes("unlock", x -> x.unlock(2));
+        undoes("nameRow", x -> x.nameRow('b', 2));
+        undoes("spread", x -> x.spread(0));
+        undoes("run", x -> Check.run(x, "move 3 0;unlock 2;remove 2;row 7"));
         EchoCensus x = example();
-        undoes("addRow", x, () -> x.addRow(12));
-        undoes("addPhantoms", x, () -> x.addPhantoms(1, 2));
-        undoes("removePhantoms", x, () -> x.removePhantoms(0, 1));
-        undoes("add", x, () -> x.add(1, 999));
-        Check.equal("the next free id after undo", 4, () -> x.add(1, 1));
+        x.add(1, 1);
         x.undo();
-        undoes("move", x, () -> x.move(3, 0));
-        undoes("remove", x, () -> x.remove(1));
-        undoes("remove with an heir", x, () -> x.remove(0));
-        undoes("setHeir", x, () -> x.setHeir(0, 3));
-        undoes("clearHeir", x, () -> x.clearHeir(0));
-        undoes("lock", x, () -> x.lock(1));
-        undoes("unlock", x, () -> x.unlock(2));
-        undoes("nameRow", x, () -> x.nameRow('b', 2));
-        undoes("spread", x, () -> x.spread(0));
-        undoes("run", x, () -> Check.run(x, "move 3 0;unlock 2;remove 2;row 7"));
+        Check.equal("the next free id after undo", 4, () -> x.add(1, 1));
     }
 
     private static void changesWithoutEffect() {
