@@ -1,5 +1,3 @@
-import java.util.function.IntFunction;
-
 /** Tests of the sentences of the promises 1 to 13: a new object, and the changes. */
 final class ChangeSentences extends Sentences {
     private ChangeSentences() {
@@ -19,25 +17,6 @@ final class ChangeSentences extends Sentences {
         unlock();
         nameRow();
         spread();
-    }
-
-    /** Checks that theatre() refuses the call for each of its rows that do not exist. */
-    private static void refusesNoRows(IntFunction<Call> call) {
-        for (int row : noRows(3)) {
-            refuses(NO_ROW, Sentences::theatre, call.apply(row));
-        }
-        refuses(NO_ROW, EchoCensus::new, call.apply(0));
-        fails(NO_ROW, () -> call.apply(8).on(fullHouse()));
-    }
-
-    /** Checks that theatre() refuses the call for echoes that are not active. */
-    private static void refusesNoEchoes(IntFunction<Call> call) {
-        for (int id : noIds(6)) {
-            refuses(NO_ELEMENT, Sentences::theatre, call.apply(id));
-        }
-        refuses(NO_ELEMENT, Sentences::theatre, call.apply(5)); // was removed
-        refuses(NO_ELEMENT, () -> rows(3, 3), call.apply(0));
-        fails(NO_ELEMENT, () -> call.apply(24).on(chain(24)));
     }
 
     private static void newObject() {
@@ -199,7 +178,7 @@ final class ChangeSentences extends Sentences {
                 refuses(ARGUMENT, Sentences::theatre, x -> x.removePhantoms(1, wrong));
             }
         });
-        says("Promise 4", "if the row is locked, has fewer phantom seats, or would have more echoes than seats", () -> {
+        says("Promise 4", "if the row is locked, has fewer phantom seats, or would have more echoes", () -> {
             refuses(STATE, () -> withPhantomsLocked(), x -> x.removePhantoms(0, 1));
             refuses(STATE, Sentences::theatre, x -> x.removePhantoms(1, 1)); // has none
             refuses(STATE, () -> rows(12), x -> x.removePhantoms(0, 6));
@@ -386,10 +365,8 @@ final class ChangeSentences extends Sentences {
             refuses(STATE, Sentences::theatre, x -> x.remove(4));
             refuses(STATE, () -> withPhantomsLocked(), x -> x.remove(0)); // its heir does not matter
             EchoCensus x = theatre();
-            x.lock(1);
-            is(0, () -> x.remove(0));
-            x.unlock(1);
-            is(0, () -> x.remove(3));
+            x.lock(0);
+            is(0, () -> x.remove(3)); // the row of its heir is locked
         });
     }
 

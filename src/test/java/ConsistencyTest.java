@@ -20,6 +20,7 @@ public final class ConsistencyTest {
         totals();
         seats();
         heirs();
+        places();
         Check.finish();
     }
 
@@ -85,6 +86,15 @@ public final class ConsistencyTest {
                 }
             });
         }
+    }
+
+    /** An echo in a row behind the last one: the tree descends to it, counting row by row does not. */
+    private static void places() {
+        check("a place", false, inside -> inside.numbers("places")[5] = 8);
+        check("a place in another row", true, inside -> {
+            inside.numbers("realSeats")[0]++;
+            inside.numbers("places")[5] = 0;
+        });
     }
 
     /** The numbers of the present theatre. */

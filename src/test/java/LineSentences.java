@@ -92,11 +92,7 @@ final class LineSentences extends Sentences {
             fails(NO_ROW, () -> x.lineChar(10 + 8 * 18));
         });
         says("Promise 52", "if there is no such row", () -> {
-            for (int row : noRows(3)) {
-                refuses(NO_ROW, Sentences::theatre, x -> x.formatRow(row));
-            }
-            refuses(NO_ROW, EchoCensus::new, x -> x.formatRow(0));
-            fails(NO_ROW, () -> fullHouse().formatRow(8));
+            refusesNoRows(row -> x -> x.formatRow(row));
             is(27, () -> fullHouse().formatRow(7));
         });
     }
@@ -142,11 +138,7 @@ final class LineSentences extends Sentences {
             is(8, () -> x.formatEcho(101));
         });
         says("Promise 53", "if no active echo has this id", () -> {
-            for (int id : noIds(6)) {
-                refuses(NO_ELEMENT, Sentences::theatre, x -> x.formatEcho(id));
-            }
-            refuses(NO_ELEMENT, Sentences::theatre, x -> x.formatEcho(5));
-            refuses(NO_ELEMENT, () -> rows(1), x -> x.formatEcho(0));
+            refusesNoEchoes(id -> x -> x.formatEcho(id));
         });
     }
 

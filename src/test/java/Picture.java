@@ -9,15 +9,30 @@ final class Picture {
         this.census = census;
     }
 
-    /** The whole picture. The census is used up by it: programs run and changes are undone. */
+    /** All but the past. The census is used up by it: a program runs, and echoes are added. */
     static String of(EchoCensus census) {
         Picture picture = new Picture(census);
         picture.addState();
         picture.addRest();
         picture.addBuffer();
         picture.addNextIds();
-        picture.addHistory();
         picture.addSavedCopy();
+        return picture.text.toString();
+    }
+
+    /** The past, undone step by step until there is no more. */
+    static String ofPast(EchoCensus census) {
+        Picture picture = new Picture(census);
+        for (int step = 0; step <= 8; step++) {
+            picture.text.append("\nundo ");
+            picture.add(census::undo);
+            picture.add(census::rowCount);
+            picture.add(census::echoCount);
+            picture.add(census::addedLoudness);
+            picture.add(census::activeLoudness);
+            picture.add(census::moveCount);
+        }
+        picture.addState();
         return picture.text.toString();
     }
 
@@ -45,12 +60,12 @@ final class Picture {
             text.append("\necho ").append(id).append(' ');
             add(() -> census.rowOf(id));
             add(() -> census.loudness(id));
-            add(() -> census.heir(id));
+            add(() -> census.hasHeir(id) ? census.heir(id) : "-");
         }
         text.append("\nboxes ");
         for (char box = 'a'; box <= 'h'; box++) {
             char name = box;
-            add(() -> census.namedRow(name));
+            add(() -> census.isNamed(name) ? census.namedRow(name) : "-");
         }
         text.append("\ntotals ");
         add(census::moveCount);
@@ -82,17 +97,6 @@ final class Picture {
         for (int index = 0; index < census.rowCount(); index++) {
             int row = index;
             add(() -> census.add(row, 1));
-        }
-    }
-
-    private void addHistory() {
-        for (int step = 0; step <= 8; step++) {
-            text.append("\nundo ");
-            add(census::undo);
-            add(census::rowCount);
-            add(census::echoCount);
-            add(census::activeLoudness);
-            add(census::moveCount);
         }
     }
 

@@ -1,5 +1,6 @@
 import java.util.NoSuchElementException;
 import java.util.concurrent.Callable;
+import java.util.function.IntFunction;
 
 /** What the tests of the document's sentences share. No test calls one object more than 512 times. */
 abstract class Sentences {
@@ -49,8 +50,30 @@ abstract class Sentences {
     static void refuses(Class<? extends Exception> type, Maker maker, Call call) {
         EchoCensus called = maker.make();
         fails(type, () -> call.on(called));
-        String untouched = Picture.of(maker.make());
-        is(untouched, () -> Picture.of(called));
+        is(Picture.of(maker.make()), () -> Picture.of(called));
+        EchoCensus calledTwice = maker.make();
+        fails(type, () -> call.on(calledTwice));
+        fails(type, () -> call.on(calledTwice));
+        is(Picture.ofPast(maker.make()), () -> Picture.ofPast(calledTwice));
+    }
+
+    /** Checks that the call is refused for rows that do not exist. */
+    static void refusesNoRows(IntFunction<Call> call) {
+        for (int row : noRows(3)) {
+            refuses(NO_ROW, Sentences::theatre, call.apply(row));
+        }
+        refuses(NO_ROW, EchoCensus::new, call.apply(0));
+        refuses(NO_ROW, Sentences::fullHouse, call.apply(8));
+    }
+
+    /** Checks that the call is refused for echoes that are not active. */
+    static void refusesNoEchoes(IntFunction<Call> call) {
+        for (int id : noIds(6)) {
+            refuses(NO_ELEMENT, Sentences::theatre, call.apply(id));
+        }
+        refuses(NO_ELEMENT, Sentences::theatre, call.apply(5)); // was removed
+        refuses(NO_ELEMENT, () -> rows(3, 3), call.apply(0));
+        refuses(NO_ELEMENT, () -> chain(24), call.apply(24));
     }
 
     /** Checks the length that a formatting call answers, and the line that it leaves. */

@@ -5,7 +5,9 @@ public final class SentencesTest {
         CommandSentences.test();
         UndoSentences.test();
         ChangeSentences.test();
-        QuestionSentences.test();
+        RowSentences.test();
+        EchoSentences.test();
+        CountSentences.test();
         LineSentences.test();
         for (String sentence : Sentences.DOCUMENT.unquoted()) {
             Check.equal("the number of tests of " + sentence, 1, () -> 0);

@@ -25,6 +25,14 @@ final class TermsSentences extends Sentences {
                 is(999, () -> x.remove(id));
             }
             is(255 * 999, x::lostLoudness); // the 512th call
+            EchoCensus most = rows(12, 12);
+            for (int id : upTo(24)) {
+                is(id, () -> most.add(id % 2, 1));
+            }
+            for (int id : upTo(243)) {
+                is(1, () -> most.remove(id));
+                is(24 + id, () -> most.add(id % 2, 1)); // at last 266, by the 512th call
+            }
             EchoCensus y = rows(12);
             for (int round = 0; round < 170; round++) {
                 is(1, () -> y.lock(0));
@@ -262,11 +270,14 @@ final class TermsSentences extends Sentences {
                 EchoCensus x = chain(24);
                 x.clearHeir(20);
                 is(id <= 20 ? 20 : 23, () -> x.lastHeir(id));
+                is(id <= 20 ? 20 : 23, () -> x.lastHeirByDoubling(id));
                 int last = id;
-                while (x.hasHeir(last)) {
+                for (int step = 0; step < 24 && x.hasHeir(last); step++) {
                     last = x.heir(last);
                 }
-                is(last, () -> x.lastHeirByDoubling(id));
+                int due = last;
+                is(due, () -> x.lastHeir(id));
+                is(due, () -> x.lastHeirByDoubling(id));
             }
             EchoCensus alone = rows(1);
             alone.add(0, 1);

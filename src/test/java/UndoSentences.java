@@ -138,17 +138,32 @@ final class UndoSentences extends Sentences {
 
     private static void errors() {
         says("Errors", "leaves the census unchanged, unless its description says otherwise", () -> {
+            String due = Picture.of(theatre());
+            String past = Picture.ofPast(theatre());
             for (Call refused : refusedByTheatre()) {
-                String due = Picture.of(theatre());
                 EchoCensus x = theatre();
                 is(true, () -> Check.answer(() -> refused.on(x)).endsWith("Exception"));
                 is(due, () -> Picture.of(x));
+                EchoCensus y = theatre();
+                is(true, () -> Check.answer(() -> refused.on(y)).endsWith("Exception"));
+                is(past, () -> Picture.ofPast(y));
             }
-            EchoCensus y = theatre();
-            is(6, () -> y.append('x'));
-            fails(ARGUMENT, y::run);
-            is(1, () -> y.append('x'));
-            is(5, y::errorPosition);
+            EchoCensus x = theatre();
+            is(6, () -> x.append('x'));
+            fails(ARGUMENT, x::run);
+            is(5, x::errorPosition);
+            is(0, x::failedCommand);
+            is(STATE.getName(), () -> Check.run(x, "spread 0;spread 9"));
+            is(5, x::errorPosition);
+            is(1, x::failedCommand);
+            EchoCensus y = rows(12);
+            addAll(y, 0, 1, 2, 3, 4, 5, 6, 7, 8);
+            fails(STATE, () -> y.unlock(0));
+            is(STATE.getName(), () -> Check.run(y, "echo 0 9;unlock 0"));
+            for (int left : new int[] {7, 6, 5, 4, 3, 2, 1, 0}) {
+                is(left, y::undo);
+                is(left, y::echoCount);
+            }
         });
         says("Errors", "If several conditions of a method apply, the exception that is listed first is thrown.",
                 UndoSentences::orderOfConditions);
